@@ -23,7 +23,8 @@ final class Checks {
     }
 
     /** The call has to throw exactly this exception and to change nothing that can be seen. */
-    static void refused(String call, PlaneServos x, Class<? extends RuntimeException> kind, Consumer<PlaneServos> made) {
+    static void refused(String call, PlaneServos x, Class<? extends RuntimeException> kind,
+            Consumer<PlaneServos> made) {
         String before = Look.at(x);
         int savedBefore = x.savedStates();
         int errorBefore = x.firstError();

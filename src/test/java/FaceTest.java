@@ -15,7 +15,7 @@ public final class FaceTest {
         TreeSet<String> names = new TreeSet<>();
         for (String line : block.split("\n")) {
             String text = line.trim();
-            if (text.startsWith("public ") && text.endsWith(");") || text.startsWith("public ") && text.contains("throws")) {
+            if (text.startsWith("public ") && (text.endsWith(");") || text.contains("throws"))) {
                 due.add(plain(text));
                 names.add(text.substring(0, text.indexOf('(')).replaceAll(".* ", ""));
             }
