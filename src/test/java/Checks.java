@@ -7,13 +7,19 @@ final class Checks {
     static final Class<? extends RuntimeException> STATE = IllegalStateException.class;
 
     private static int wrong = 0;
+    private static String about = "";
 
     private Checks() {
     }
 
+    /** What is printed ahead of each fault from here on. */
+    static void about(String what) {
+        about = what;
+    }
+
     static void fail(String what) {
         wrong++;
-        System.out.println(what);
+        System.out.println(about + what);
     }
 
     static void due(String call, Object got, Object want) {
@@ -22,10 +28,10 @@ final class Checks {
         }
     }
 
-    /** The call has to throw exactly this exception and to change nothing that can be seen. */
+    /** The call has to throw exactly this exception, and to change nothing. */
     static void refused(String call, PlaneServos x, Class<? extends RuntimeException> kind,
             Consumer<PlaneServos> made) {
-        String before = Look.at(x);
+        long before = x.digest();
         int savedBefore = x.savedStates();
         int errorBefore = x.firstError();
         Class<?> thrown = null;
@@ -37,28 +43,28 @@ final class Checks {
         if (thrown != kind) {
             fail(call + " threw " + thrown + ", due is " + kind);
         }
-        due(call + ": what is seen after it", Look.at(x), before);
+        due(call + ": digest() after it", x.digest(), before);
         due(call + ": savedStates() after it", x.savedStates(), savedBefore);
         due(call + ": firstError() after it", x.firstError(), errorBefore);
     }
 
     /** The call has to save exactly the state before it, and undo() has to bring that back. */
     static void undoable(String call, PlaneServos x, Consumer<PlaneServos> made) {
-        String before = Look.at(x);
+        long before = x.digest();
         int savedBefore = x.savedStates();
         made.accept(x);
         due(call + ": savedStates() after it", x.savedStates(), Math.min(savedBefore + 1, 6));
         x.undo();
-        due(call + ": what is seen after undo()", Look.at(x), before);
+        due(call + ": digest() after undo()", x.digest(), before);
         made.accept(x);
     }
 
     /** The call may change nothing, not even the saved states. */
     static void quiet(String call, PlaneServos x, Consumer<PlaneServos> made) {
-        String before = Look.at(x);
+        long before = x.digest();
         int savedBefore = x.savedStates();
         made.accept(x);
-        due(call + ": what is seen after it", Look.at(x), before);
+        due(call + ": digest() after it", x.digest(), before);
         due(call + ": savedStates() after it", x.savedStates(), savedBefore);
     }
 

@@ -70,11 +70,7 @@ public final class ForecastsTest {
     }
 
     private static void reasonOfAnEmptyBattery() {
-        PlaneServos x = new PlaneServos();
-        for (int i = 0; i < 400 && x.battery() > 0; i++) {
-            x.send(50);
-        }
-        Checks.due("battery()", x.battery(), 0);
+        PlaneServos x = Radio.withBattery(0);
         Checks.due("reason(0), at its aim", x.reason(0), 0);
         x.move(0, 1);
         Checks.due("reason(0), empty after a received frame", x.reason(0), 1);
@@ -111,13 +107,9 @@ public final class ForecastsTest {
     }
 
     private static void withoutTheBattery() {
-        PlaneServos x = new PlaneServos();
-        for (int i = 0; i < 400; i++) {
-            x.lose(50);
-        }
-        Checks.due("battery()", x.battery(), 0);
+        PlaneServos x = Radio.withBattery(0);
         x.setSpeed(3, 10);
-        x.move(3, 25);
+        x.move(0, 25);
         Checks.due("framesToAim(3), empty", x.framesToAim(3), 3);
     }
 
@@ -222,7 +214,7 @@ public final class ForecastsTest {
      * The servo 3 has 300 plus the trim, the servo 4 has -300 plus the trim, and both are limited, so that half
      * their difference falls with the size of the trim, whatever its sign. It is 5 at the trim 0 and 0 at 9 and -9.
      */
-    private static PlaneServos evenInTheTrim(int addedShare) {
+    static PlaneServos evenInTheTrim(int addedShare) {
         PlaneServos x = new PlaneServos();
         for (int servo = 0; servo < 4; servo++) {
             x.clearMixes(servo);

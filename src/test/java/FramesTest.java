@@ -14,29 +14,6 @@ public final class FramesTest {
         Checks.finish("FramesTest");
     }
 
-    /** Leaves the given number of units in the battery, all servos at 0, and counts the frames from there on. */
-    private static PlaneServos withBattery(int units) {
-        PlaneServos x = new PlaneServos();
-        for (int servo = 0; servo < 6; servo++) {
-            x.clearMixes(servo);
-            x.addMix(0, servo, 100, 0, 0);
-        }
-        for (int i = 0; i < 16; i++) {
-            x.move(0, i % 2 == 0 ? 100 : -100);
-            x.send(1);
-        }
-        x.move(0, 0);
-        x.send(1);
-        for (int i = 0; i < 400 && x.battery() > units + 50; i++) {
-            x.send(50);
-        }
-        if (x.battery() > units) {
-            x.send(x.battery() - units);
-        }
-        Checks.due("the units that a test starts from", x.battery(), units);
-        return x;
-    }
-
     private static void sends() {
         PlaneServos x = new PlaneServos();
         x.move(0, 30);
@@ -175,7 +152,7 @@ public final class FramesTest {
     }
 
     private static void emptyBattery() {
-        PlaneServos x = withBattery(2);
+        PlaneServos x = Radio.withBattery(2);
         int framesBefore = x.frames();
         Checks.due("send(2), the last units", x.send(2), 0);
         Checks.due("battery(), empty", x.battery(), 0);
@@ -195,7 +172,7 @@ public final class FramesTest {
         Checks.due("charge()", x.charge(), 20000);
         Checks.due("send(1)", x.send(1), 300);
         Checks.due("deadFrames() after", x.deadFrames(), 5);
-        PlaneServos z = withBattery(0);
+        PlaneServos z = Radio.withBattery(0);
         z.lose(1);
         Checks.undoable("lose(1), dead", z, y -> y.lose(1));
         Checks.due("deadFrames(), counted once more", z.deadFrames(), 2);
@@ -206,7 +183,7 @@ public final class FramesTest {
 
     /** The frame takes its unit before the servos move, and the servos share what is left. */
     private static void lastUnits() {
-        PlaneServos x = withBattery(71);
+        PlaneServos x = Radio.withBattery(71);
         x.setSpeed(0, 40);
         x.move(0, 50);
         Checks.due("send(1)", x.send(1), 70);
@@ -216,12 +193,12 @@ public final class FramesTest {
         Checks.due("servoPosition(2), nothing left", x.servoPosition(2), 0);
         Checks.due("target(2)", x.target(2), 50);
         Checks.due("lostFrames()", x.lostFrames(), 0);
-        PlaneServos z = withBattery(1);
+        PlaneServos z = Radio.withBattery(1);
         z.move(0, -50);
         Checks.due("send(1), one unit", z.send(1), 0);
         Checks.due("target(5), one unit", z.target(5), -50);
         Checks.due("lostFrames(), one unit", z.lostFrames(), 0);
-        PlaneServos w = withBattery(21);
+        PlaneServos w = Radio.withBattery(21);
         w.move(0, -50);
         Checks.due("send(1), downwards", w.send(1), 20);
         Checks.due("servoPosition(0), downwards", w.servoPosition(0), -20);
