@@ -3,34 +3,56 @@ public final class DigestTest {
     private static long hash;
 
     public static void main(String[] args) {
-        PlaneServos x = new PlaneServos();
-        digestDue("new", x);
-        x.move(0, 77);
-        x.setExpo(0, 31);
-        x.setRate(1, 110);
-        x.setTrim(2, -9);
-        digestDue("sticks", x);
-        x.switchRates();
-        digestDue("low", x);
-        x.cutThrottle(true);
-        digestDue("cut", x);
-        x.addMix(0, 4, 70, 3, 1);
-        x.addMix(8, 5, -70, 3, 2);
-        digestDue("mixes", x);
-        x.reverse(1);
-        x.setSpeed(0, 10);
-        x.send(3);
-        digestDue("servos", x);
-        x.charge();
-        x.lose(7);
-        digestDue("link", x);
-        x.send(50);
-        digestDue("more frames", x);
-        Checks.quiet("digest()", x, y -> y.digest());
+        digestDue("new", new PlaneServos());
+        for (int steps = 1; steps <= 7; steps++) {
+            digestDue("after step " + steps, after(steps));
+        }
+        Checks.quiet("digest()", after(7), y -> y.digest());
         freshAnswers();
-        buffersAndMemoriesAreNoPart(x);
-        deadFrames(x);
+        buffersAndMemoriesAreNoPart(after(7));
+        deadFrames();
         Checks.finish("DigestTest");
+    }
+
+    /** A radio in which more and more of what the hash has is not as in a new one. */
+    private static PlaneServos after(int steps) {
+        PlaneServos x = new PlaneServos();
+        for (int step = 1; step <= steps; step++) {
+            make(step, x);
+        }
+        return x;
+    }
+
+    private static void make(int step, PlaneServos x) {
+        switch (step) {
+            case 1:
+                x.move(0, 77);
+                x.setExpo(0, 31);
+                x.setRate(1, 110);
+                x.setTrim(2, -9);
+                break;
+            case 2:
+                x.switchRates();
+                break;
+            case 3:
+                x.cutThrottle(true);
+                break;
+            case 4:
+                x.addMix(0, 4, 70, 3, 1);
+                x.addMix(8, 5, -70, 3, 2);
+                break;
+            case 5:
+                x.reverse(1);
+                x.setSpeed(0, 10);
+                x.send(3);
+                break;
+            case 6:
+                x.charge();
+                x.lose(7);
+                break;
+            default:
+                x.send(50);
+        }
     }
 
     private static void freshAnswers() {
@@ -54,10 +76,9 @@ public final class DigestTest {
         Checks.due("digest() after append, store and recall", x.digest(), before);
     }
 
-    private static void deadFrames(PlaneServos x) {
-        for (int i = 0; i < 402; i++) {
-            x.lose(50);
-        }
+    private static void deadFrames() {
+        PlaneServos x = Radio.withBattery(9);
+        x.lose(50);
         digestDue("dead frames", x);
     }
 

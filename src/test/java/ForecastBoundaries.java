@@ -259,8 +259,8 @@ final class ForecastBoundaries {
 
     private static void edgesOfTrims() {
         Boundary.test(51, "Returns the trim, plus 100", () -> {
-            int[] neutrals = {-50, -26, -25, -24, 0, 24, 25, 26, 50};
-            int[] due = {125, 125, 125, 124, 100, 76, 75, 75, 75};
+            int[] neutrals = {-50, -26, -25, -24, -2, -1, 0, 1, 2, 24, 25, 26, 50};
+            int[] due = {125, 125, 125, 124, 102, 101, 100, 99, 98, 76, 75, 75, 75};
             for (int i = 0; i < neutrals.length; i++) {
                 PlaneServos x = new PlaneServos();
                 x.setNeutral(0, neutrals[i]);
@@ -297,6 +297,14 @@ final class ForecastBoundaries {
             x.clearMixes(0);
             x.addMix(0, 0, 10, -50, 0);
             Checks.due("bestTrim(0, 0), 20 to 25 are best", x.bestTrim(0, 0), 120);
+            for (int neutral : new int[] {-1, 1}) {
+                PlaneServos steep = new PlaneServos();
+                steep.addMix(0, 0, 150, 0, 0);
+                steep.setNeutral(0, neutral);
+                Checks.due("bestTrim(0, 0), 0 and a neighbour are best", steep.bestTrim(0, 0), 100);
+                steep.addMix(0, 0, 100, 0, 0);
+                Checks.due("bestTrim(0, 0), 0 is better than its neighbours", steep.bestTrim(0, 0), 100);
+            }
         });
         Boundary.test(51, "among two of those the positive one.", () -> {
             Checks.due("bestTrim(0, 5), 9 and -9", ForecastsTest.evenInTheTrim(0).bestTrim(0, 5), 109);

@@ -9,10 +9,10 @@ import java.util.Set;
 import java.util.stream.Collectors;
 import java.util.stream.IntStream;
 
-/** Runs of 512 calls, the same on each machine, whose answers are held against those of ReferenceRadio. */
+/** Runs of 512 calls with the last digest(), the same on each machine, whose answers are held against those of ReferenceRadio. */
 public final class RandomRunsTest {
     private static final int RUNS = 600;
-    private static final int CALLS = 512;
+    private static final int CALLS = 511;
     private static final Set<String> AGAINST_DRAINING = Set.of("charge", "undo", "recall");
     private static final Set<String> AGAINST_MIXES = Set.of("clearMixes", "removeMix", "undo", "recall");
     private static final String[] SIGNS = {"s", "t", "r", "c", "f", "l", ";", "=", "-", "0", "1", "2", "5", "9", "x"};
@@ -88,8 +88,8 @@ public final class RandomRunsTest {
         x.elevons(4, 5, 100);
         reference.call("elevons", 4, 5, 100);
         int calls = 1;
-        while (x.battery() > most && calls < 200) {
-            int position = x.position(0) == 100 ? -100 : 100;
+        while (reference.call("battery") > most && calls < 200) {
+            int position = reference.call("position", 0) == 100 ? -100 : 100;
             x.move(0, position);
             reference.call("move", 0, position);
             x.send(50);

@@ -292,8 +292,8 @@ final class ReferenceRadio {
 
     /** Makes the call of this name; a boolean counts 1 or 0, a double is told by its bits. */
     long call(String name, int... a) {
-        List<String> ofStick = Arrays.asList("move", "position", "setTrim", "trim", "setRate", "rate", "setExpo", "expo",
-            "command", "aimIfMoved", "drivenBy", "bestTrim");
+        List<String> ofStick = Arrays.asList("move", "position", "setTrim", "trim", "setRate", "rate", "setExpo",
+            "expo", "command", "aimIfMoved", "drivenBy", "bestTrim");
         List<String> ofServo = Arrays.asList("clearMixes", "reverse", "setNeutral", "setLimits", "setSpeed",
             "setFailsafe", "demand", "aim", "excess", "target", "servoPosition", "wear", "reason", "framesToAim");
         List<String> ofMix = Arrays.asList("removeMix", "mixSource", "mixServo", "mixValue", "isActive");

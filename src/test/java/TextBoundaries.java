@@ -292,7 +292,9 @@ final class TextBoundaries {
             Checks.due("position(0), the last signs of a full buffer", full.position(0), 7);
         });
         Boundary.test(57, "Returns the sum of the distances by which servos move.", () -> {
-            Checks.due("run(), no frame", with(Radio.FRESH, "s0=100").run(), 0);
+            for (String text : new String[] {"s0=100", "t0=25", "r", "c", "s0=1;t1=-2;r;c"}) {
+                Checks.due("run() of " + text, with(Radio.FRESH, text).run(), 0);
+            }
             PlaneServos x = with(Radio.FRESH, "s0=100;f1;s0=-100;l9;f1;s1=5;f50");
             Checks.due("run(), three frames with ways", x.run(), 100 + 200 + 5);
         });
