@@ -80,6 +80,9 @@ public final class FaceTest {
             if (!Modifier.isPublic(call.getModifiers()) && !Modifier.isPrivate(call.getModifiers())) {
                 Checks.fail("the method " + call.getName() + " is visible");
             }
+            if (Modifier.isPrivate(call.getModifiers()) && names.contains(call.getName())) {
+                Checks.fail("the private method " + call.getName() + " bears the name of a call");
+            }
         }
         for (Class<?> inside : kind.getDeclaredClasses()) {
             for (Method call : inside.getDeclaredMethods()) {

@@ -1,4 +1,6 @@
 import java.io.IOException;
+import java.lang.reflect.Field;
+import java.lang.reflect.Modifier;
 import java.nio.file.Files;
 import java.nio.file.Path;
 import java.util.Set;
@@ -23,6 +25,14 @@ public final class LanguageTest {
         libraryDue(code);
         throwsDue(code);
         methodsDue(code);
+        classDue(PlaneServos.class);
+        for (Class<?> inside : PlaneServos.class.getDeclaredClasses()) {
+            int kind = inside.getModifiers();
+            if (!Modifier.isStatic(kind) || Modifier.isPublic(kind) || Modifier.isProtected(kind)) {
+                Checks.fail(inside.getName() + " is not static, or visible");
+            }
+            classDue(inside);
+        }
         Checks.finish("LanguageTest");
     }
 
@@ -43,6 +53,21 @@ public final class LanguageTest {
         }
         if (count > 12) {
             Checks.fail("the source has " + count + " classes");
+        }
+    }
+
+    /** A class has some twenty fields, and its static ones are constants. */
+    private static void classDue(Class<?> kind) {
+        int fields = 0;
+        for (Field field : kind.getDeclaredFields()) {
+            boolean isStatic = Modifier.isStatic(field.getModifiers());
+            fields += isStatic ? 0 : 1;
+            if (isStatic && !(Modifier.isFinal(field.getModifiers()) && field.getType().isPrimitive())) {
+                Checks.fail(kind.getName() + "." + field.getName() + " is static, but no constant");
+            }
+        }
+        if (fields > 20) {
+            Checks.fail(kind.getName() + " has " + fields + " fields");
         }
     }
 
